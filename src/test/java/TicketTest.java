@@ -20,7 +20,7 @@ public final class TicketTest {
         Check.finish();
     }
 
-    /** Pays all that is due at a minute, at machine 2, whose box gets what it lacks before. */
+    /** Pays just what is due at a minute, at machine 2. */
     static void pay(ParkOffice x, int ticket, int minute) {
         int rest = x.payBegin(ticket, 2, minute);
         for (int value : new int[] {200, 100, 50, 20, 10, 5}) {
