@@ -700,18 +700,18 @@ public final class ParkOffice {
             return hour >= fromHour || hour < toHour;
         }
 
-        boolean mayBeginAt(int minute) {
-            return mayBeginIn(minute / HOUR % WEEK_HOURS);
-        }
-
-        /** For a minute outside its hours: the latest one before in them; below 0 if there is none. */
-        int lastBeginBefore(int minute) {
+        /**
+         * Its end if it begins at the latest minute in its hours before one that is outside them;
+         * NONE if there is no such minute from the earliest on.
+         */
+        int endFromOutsideHours(int minute, int earliest) {
             // From 168 to 0 is the one pair that holds no hour at all.
             if (fromHour == WEEK_HOURS && toHour == 0) {
                 return NONE;
             }
             int lastOfHours = toHour * HOUR - 1;
-            return minute - Math.floorMod(minute - lastOfHours, WEEK);
+            int begin = minute - (minute + WEEK - lastOfHours) % WEEK;
+            return begin < earliest ? NONE : begin + length;
         }
     }
 
@@ -764,8 +764,8 @@ public final class ParkOffice {
         private static final int FIRST_BITS = 5;
         private static final int COUNT_BITS = 13;
         private static final long FIRST_MASK = (1L << FIRST_BITS) - 1;
-        private static final int MAY_BEGIN = -1;
-        private static final int NEVER_LATER = 0;
+        // No product ends at minute 0, so it may stand for one that begins where it is asked for.
+        private static final int MAY_BEGIN = 0;
         // A prime: the seven beginnings that whole pieces of a long stay have in a week never clash.
         private static final int MEMOS = 509;
 
@@ -826,13 +826,8 @@ public final class ParkOffice {
             int hour = (from + at) / HOUR % WEEK_HOURS;
             for (int i = 0; i < zone.offerCount; i++) {
                 Product offer = zone.offers[i];
-                endsInHour[i] = offer.mayBeginIn(hour) ? MAY_BEGIN : endOutsideHours(offer, at);
+                endsInHour[i] = offer.mayBeginIn(hour) ? MAY_BEGIN : offer.endFromOutsideHours(from + at, from);
             }
-        }
-
-        private int endOutsideHours(Product offer, int at) {
-            int begin = offer.lastBeginBefore(from + at);
-            return begin < from ? NEVER_LATER : begin - from + offer.length;
         }
 
         private long leastRank(int at) {
@@ -841,13 +836,17 @@ public final class ParkOffice {
                 least = rank(FREE, 0, zone.freeMinutes);
             }
             for (int i = 0; i < zone.offerCount; i++) {
-                Product offer = zone.offers[i];
-                int end = endsInHour[i] == MAY_BEGIN ? at + offer.length : endsInHour[i];
+                int end = offerEnd(i, at);
                 if (end > at) {
-                    least = Math.min(least, rank(offer.id, offer.price, end));
+                    least = Math.min(least, rank(zone.offers[i].id, zone.offers[i].price, end));
                 }
             }
             return least;
+        }
+
+        // Only once the hour of this minute is prepared.
+        private int offerEnd(int i, int at) {
+            return endsInHour[i] == MAY_BEGIN ? at + zone.offers[i].length : endsInHour[i] - from;
         }
 
         private long rank(int first, int price, int end) {
@@ -863,10 +862,10 @@ public final class ParkOffice {
             if (first == FREE) {
                 return zone.freeMinutes;
             }
+            prepareHourOf(at);
             for (int i = 0; i < zone.offerCount; i++) {
-                Product offer = zone.offers[i];
-                if (offer.id == first) {
-                    return offer.mayBeginAt(from + at) ? at + offer.length : endOutsideHours(offer, at);
+                if (zone.offers[i].id == first) {
+                    return offerEnd(i, at);
                 }
             }
             return length;

@@ -53,6 +53,12 @@ public final class CoverTest {
         Check.argument("26: the argument wins", () -> y.best(0, 1, 0, 0));
     }
 
+    private static int[] hoursOf(int id, int many) {
+        int[] row = new int[many];
+        java.util.Arrays.fill(row, id);
+        return row;
+    }
+
     private static void empty() {
         ParkOffice x = Check.hourly();
         row("no minutes", x, 0, 0, 0, 0);
@@ -168,6 +174,13 @@ public final class CoverTest {
         ParkOffice y = with(new int[] {5, 100, 300, 167, 168});
         row("up to hour 167", y, 0, 10_020, 10_379, 200, 0, 5);
         row("not in hour 0", y, 0, 0, 61, 200, 0, 0);
+        ParkOffice z = with(new int[] {5, 100, 300, 166, 0}, new int[] {6, 100, 300, 168, 1});
+        row("hours 166 .. 0: its latest minute", z, 0, 10_020, 10_379, 200, 0, 5);
+        row("hours 168 .. 1: its latest minute", z, 0, 0, 359, 200, 0, 6);
+        ParkOffice w = with(new int[] {5, 0, 60, 3, 5});
+        row("the last minute before its hours", w, 0, 179, 180, 100, 0);
+        row("it may not begin there", w, 0, 179, 239, 100, 0);
+        row("it follows", w, 0, 179, 240, 100, 0, 5);
     }
 
     private static void neverBeginning() {
@@ -225,6 +238,10 @@ public final class CoverTest {
 
     private static void asksInTurn() {
         ParkOffice x = Check.hourly();
+        row("all three days", x, 0, 0, 4320, 7200, hoursOf(0, 72));
+        row("a minute of the next minute", x, 0, 1, 2, 100, 0);
+        row("zone 0 from minute 1 on", x, 0, 1, 61, 100, 0);
+        row("zone 1 from minute 0 on", x, 1, 0, 60, 200, 1);
         for (int i = 0; i < 50; i++) {
             int zone = i % 4;
             int length = 60 * (i % 7) + 1;

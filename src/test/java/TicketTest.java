@@ -188,6 +188,8 @@ public final class TicketTest {
         Check.argument("Terms: so this is too early", () -> x.enter(1, 3, 19));
         x.leave(1, 30);
         Check.argument("Terms: behind a leave that was none", () -> x.enter(1, 3, 29));
+        x.fee(1, 35);
+        Check.argument("Terms: behind fee", () -> x.enter(1, 3, 34));
         x.lost(0, 0, 40);
         Check.argument("Terms: behind lost", () -> x.fee(1, 39));
         x.payBegin(1, 0, 50);
