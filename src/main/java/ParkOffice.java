@@ -769,7 +769,8 @@ public final class ParkOffice {
         // A prime: the seven beginnings that whole pieces of a long stay have in a week never clash.
         private static final int MEMOS = 509;
 
-        private final long[] ranks = new long[LONGEST + 1];
+        private final long[] ranks = new long[LONGEST];
+        private final long[] ranksAlone = new long[PRODUCTS];
         private final int[] endsInHour = new int[PRODUCTS];
         private final int[] memoStays = new int[MEMOS];
         private final int[] memoPrices = new int[MEMOS];
@@ -785,7 +786,7 @@ public final class ParkOffice {
             if (memoStays[memo] != stay) {
                 table(ofZone, begin, minutes, stay);
                 memoStays[memo] = stay;
-                memoPrices[memo] = (int) (ranks[0] >> (FIRST_BITS + COUNT_BITS));
+                memoPrices[memo] = (int) (rankFrom(0) >> (FIRST_BITS + COUNT_BITS));
             }
             return memoPrices[memo];
         }
@@ -812,7 +813,9 @@ public final class ParkOffice {
             zone = ofZone;
             from = begin % WEEK;
             length = minutes;
-            ranks[length] = 0;
+            for (int i = 0; i < zone.offerCount; i++) {
+                ranksAlone[i] = rankOfOne(zone.offers[i].id, zone.offers[i].price);
+            }
             for (int at = length - 1; at >= 0; at--) {
                 if (at == length - 1 || (from + at) % HOUR == HOUR - 1) {
                     prepareHourOf(at);
@@ -833,12 +836,13 @@ public final class ParkOffice {
         private long leastRank(int at) {
             long least = Long.MAX_VALUE;
             if (at == 0 && zone.freeMinutes > 0) {
-                least = rank(FREE, 0, zone.freeMinutes);
+                least = rankOfOne(FREE, 0) + rankFrom(zone.freeMinutes);
             }
             for (int i = 0; i < zone.offerCount; i++) {
                 int end = offerEnd(i, at);
                 if (end > at) {
-                    least = Math.min(least, rank(zone.offers[i].id, zone.offers[i].price, end));
+                    long rank = ranksAlone[i] + rankFrom(end);
+                    least = rank < least ? rank : least;
                 }
             }
             return least;
@@ -849,9 +853,13 @@ public final class ParkOffice {
             return endsInHour[i] == MAY_BEGIN ? at + zone.offers[i].length : endsInHour[i] - from;
         }
 
-        private long rank(int first, int price, int end) {
-            long others = ranks[end < length ? end : length] & ~FIRST_MASK;
-            return others + ((long) price << (FIRST_BITS + COUNT_BITS)) + (1L << FIRST_BITS) + first;
+        private static long rankOfOne(int first, int price) {
+            return ((long) price << (FIRST_BITS + COUNT_BITS)) + (1L << FIRST_BITS) + first;
+        }
+
+        // Without the first product: where the row goes on, another one is the first.
+        private long rankFrom(int end) {
+            return end < length ? ranks[end] & ~FIRST_MASK : 0;
         }
 
         private int firstAt(int at) {

@@ -7,6 +7,8 @@ public final class RandomRunsTest {
     private static final int CALLS = 512;
     private static final int[] VALUES = {5, 10, 20, 50, 100, 200};
     private static final int[] LENGTHS = {15, 20, 30, 45, 60, 60, 90, 120, 180, 240, 480, 720, 1440, 4320};
+    private static final int[] UNLIKELY =
+            {-1, 0, 4, 8, 20, 24, 30, 41, 169, 1_000_001, Integer.MAX_VALUE, Integer.MIN_VALUE};
     private static final int ARGUMENT = 1_000_000_001;
     private static final int STATE = 1_000_000_002;
 
@@ -52,7 +54,7 @@ public final class RandomRunsTest {
         if (!oneIn(60)) {
             return value;
         }
-        return of(new int[] {-1, 0, 4, 8, 20, 24, 30, 41, 169, 1_000_001, Integer.MAX_VALUE, Integer.MIN_VALUE, value + 1});
+        return oneIn(8) ? value + 1 : of(UNLIKELY);
     }
 
     private void setUp() {
