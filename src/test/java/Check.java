@@ -2,12 +2,22 @@
 final class Check {
     private static int checks = 0;
     private static int wrong = 0;
+    private static String about = "";
 
     private Check() {
     }
 
     interface Call {
         void run();
+    }
+
+    static int checks() {
+        return checks;
+    }
+
+    /** What the checks from now on are about: told before each one that is wrong. */
+    static void about(String words) {
+        about = words;
     }
 
     static void is(String what, long due, long got) {
@@ -50,9 +60,9 @@ final class Check {
         }
     }
 
-    private static void tell(String text) {
+    static void tell(String text) {
         wrong++;
-        System.out.println(text);
+        System.out.println(about + text);
     }
 
     static void finish() {
