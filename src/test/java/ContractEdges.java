@@ -251,6 +251,11 @@ final class ContractEdges {
         Check.no("now there are two from 5 to 15", y.reserve(3, 0, 14, 16));
         Check.yes("from 15 on one", y.reserve(3, 0, 15, 16));
         Check.yes("another zone's do not count", y.reserve(4, 1, 0, 20));
+        for (int id : new int[] {0, 29}) {
+            ParkOffice one = withPlaces(1);
+            one.reserve(id, 0, 10, 11);
+            Check.no("only in its midst, by number " + id, one.reserve(15, 0, 0, 30));
+        }
         ParkOffice z = withPlaces(40);
         for (int id = 0; id < 30; id++) {
             Check.yes("all thirty at once", z.reserve(id, 0, 0, 200_000));

@@ -89,6 +89,10 @@ final class CoverEdges {
         row("their first minute", x, 180, 181, 5, 5);
         row("their last minute", x, 299, 300, 5, 5);
         row("a minute behind them", x, 300, 301, 100, 0);
+        row("a minute before them, for an hour", x, 179, 239, 100, 0);
+        ParkOffice z = with(told(0, 5, 60, 3, 5), told(9, 100, 60));
+        row("a minute before the hours of the first product told", z, 179, 239, 100, 9);
+        row("in them", z, 180, 240, 5, 0);
         ParkOffice y = with(told(5, 5, 120, 167, 168));
         row("not from the minute before: a week's end", y, 10_080, 10_081, 100, 0);
         row("the week's last minute", y, 10_079, 10_199, 5, 5);
@@ -278,6 +282,13 @@ final class CoverEdges {
         Check.is("4320 minutes", 7000, x.least(0, 5, 4325));
         Check.is("4320 minutes up to the last", 7000, x.least(0, 195_680, 200_000));
         Check.is("4320 minutes by the hour", 200 * 72, x.least(1, 0, 4320));
+        // One asked behind another, next to it in beginning, length or zone, has its own answer.
+        Check.is("behind 4320 minutes: a minute later, none", 0, x.least(1, 1, 1));
+        Check.is("a minute later, one", 200, x.least(1, 1, 2));
+        Check.is("a minute later, two", 200, x.least(1, 1, 3));
+        Check.is("all but one", 200 * 72, x.least(1, 0, 4319));
+        Check.is("the zone behind", 300 * 72, x.least(2, 0, 4320));
+        Check.is("the same again", 200 * 72, x.least(1, 0, 4320));
     }
 
     private static void leastBackwards() {
@@ -335,6 +346,8 @@ final class CoverEdges {
         }
         Check.is("no minutes have none: 0", ParkOffice.NONE, x.best(0, 60, 60, 0));
         Check.is("behind the last", ParkOffice.NONE, x.best(0, 0, 4320, 72));
+        Check.is("and behind that", ParkOffice.NONE, x.best(0, 0, 4320, 73));
+        Check.is("far behind", ParkOffice.NONE, x.best(0, 0, 4320, Integer.MAX_VALUE));
         Check.is("the last", 0, x.best(0, 0, 4320, 71));
     }
 

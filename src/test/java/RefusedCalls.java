@@ -92,21 +92,21 @@ final class RefusedCalls {
     }
 
     private static void morning() {
-        does(x -> x.places(0, 2), x -> x.product(0, 100, 60, 0), x -> x.product(1, 200, 60, 1),
+        does(x -> x.places(0, 3), x -> x.product(0, 100, 60, 0), x -> x.product(1, 200, 60, 1),
                 x -> x.product(2, 300, 60, 2), x -> x.product(9, 55, 30, 0), x -> x.hours(9, 0, 2),
                 x -> x.free(1, 20));
         answers(x -> x.open());
         does(x -> x.product(3, 400, 60, 3));
         answers(x -> x.open(), x -> x.fill(0, 50, 3), x -> x.fill(1, 5, 499));
         does(x -> x.contract(0, 0, 1), x -> x.contract(1, 1, 2), x -> x.plate(0, 1), x -> x.plate(0, 2),
-                x -> x.plate(1, 3));
+                x -> x.plate(0, 8), x -> x.plate(1, 3));
         answers(x -> x.enter(0, 1, 5), x -> x.enter(5, 4, 5), x -> x.fee(2, 30));
         answers(x -> one(x.reserve(0, 0, 40, 60)), x -> one(x.reserve(1, 0, 50, 70)),
-                x -> one(x.reserve(2, 0, 55, 58)), x -> x.enter(0, 2, 40));
+                x -> one(x.reserve(2, 0, 55, 58)), x -> one(x.reserve(3, 0, 56, 57)), x -> x.enter(0, 2, 50));
     }
 
     private static void noon() {
-        answers(x -> x.payBegin(2, 0, 45), x -> x.coin(0, 200), x -> x.coin(0, 100), x -> x.box(0, 100),
+        answers(x -> x.payBegin(2, 0, 52), x -> x.coin(0, 200), x -> x.coin(0, 100), x -> x.box(0, 100),
                 x -> x.payEnd(0), x -> x.changeCoins(0, 100), x -> x.changeCoins(0, 50), x -> x.journal(0, 2));
         answers(x -> one(x.leave(2, 59)), x -> x.inside(4), x -> x.enter(0, 2, 70), x -> x.fee(3, 100));
         answers(x -> x.lost(1, 3, 100), x -> x.inside(1), x -> x.fee(4, 101), x -> one(x.dropPlate(1)));
@@ -116,12 +116,13 @@ final class RefusedCalls {
 
     private static void evening() {
         answers(x -> x.lost(0, 2, 110), x -> x.fee(5, 120), x -> one(x.leave(4, 120)), x -> x.enter(0, 1, 120),
-                x -> x.occupied(0), x -> x.occupied(1), x -> x.fee(6, 150), x -> one(x.cancelReserve(0)),
-                x -> one(x.cancelReserve(1)), x -> one(x.cancelReserve(2)), x -> one(x.reserve(0, 3, 150, 160)));
+                x -> x.enter(0, 8, 120), x -> x.occupied(0), x -> x.occupied(1), x -> x.fee(6, 150),
+                x -> one(x.leave(7, 150)), x -> one(x.cancelReserve(0)), x -> one(x.cancelReserve(1)),
+                x -> one(x.cancelReserve(2)), x -> one(x.reserve(0, 3, 150, 160)));
         answers(x -> x.payBegin(6, 0, 150), x -> x.coin(0, 200), x -> x.payEnd(0), x -> x.changeCoins(0, 50),
                 x -> x.takings(0, 200_000), x -> x.journal(1, 1), x -> x.journal(2, 0));
         does(x -> x.plate(0, 9), x -> x.plate(1, 10), x -> x.contract(0, 2, 1));
-        answers(x -> x.enter(2, 9, 160), x -> x.enter(1, 3, 160), x -> x.fee(7, 170), x -> x.fee(8, 190),
+        answers(x -> x.enter(2, 9, 160), x -> x.enter(1, 3, 160), x -> x.fee(8, 170), x -> x.fee(9, 190),
                 x -> one(x.dropPlate(2)), x -> x.least(0, 30, 150), x -> x.best(0, 30, 150, 1));
         for (int machine = 0; machine < 3; machine++) {
             for (int value : new int[] {5, 10, 20, 50, 100, 200}) {
@@ -160,7 +161,8 @@ final class RefusedCalls {
         asked("fee of one that is gone", x -> x.fee(2, 200_000));
         asked("leave, gone or being paid", x -> x.leave(2, 200_000));
         asked("leave, being paid", x -> x.leave(3, 200_000));
-        asked("contract", x -> x.contract(0, 3, 9));
+        asked("contract, its zone", x -> x.contract(0, 3, 1));
+        asked("contract, its k", x -> x.contract(0, 0, 9));
         asked("plate of no contract", x -> x.plate(5, 1));
         asked("plate of another one", x -> x.plate(1, 2));
         asked("reserve", x -> x.reserve(0, 0, 1000, 2000));

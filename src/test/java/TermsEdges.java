@@ -107,6 +107,11 @@ final class TermsEdges {
                     Check.is("a minute before", 0, x.best(0, first - 1, first, 0));
                 }
             }
+            // A stay that reaches it: 0 before it, 9 at its first minute, and again at its last.
+            int next = 10_080 + 60 * hour;
+            Check.is("hour " + hour + " of the next week: its first minute", 9, x.best(0, next - 60, next + 61, 1));
+            Check.is("its last minute", 9, x.best(0, next - 60, next + 61, 2));
+            Check.is("what that costs", 110, x.least(0, next - 60, next + 61));
         }
     }
 
@@ -420,7 +425,6 @@ final class TermsEdges {
         x.leave(2, 1);
         Check.is("one has left, but this one came before", 100, x.fee(4, 2));
         Check.is("the next is let in", 0, x.fee(x.enter(0, 4, 2), 3));
-        Check.is("one without a contract does not count", 0, x.fee(3, 4));
     }
 
     private static void droppedCounts() {
